@@ -1,0 +1,97 @@
+import java.nio.charset.StandardCharsets;
+
+/** What the tests share: answers are compared and counted, texts are fed and loaded. */
+final class Check {
+    private static int wrong = 0;
+
+    private Check() {
+    }
+
+    static void due(String what, long want, long got) {
+        if (want != got) {
+            wrong++;
+            System.out.println(what + ": answered " + got + ", due is " + want);
+        }
+    }
+
+    static void due(String what, boolean want, boolean got) {
+        due(what, want ? 1 : 0, got ? 1 : 0);
+    }
+
+    /** In the tests' texts ' stands for the quote of a word. */
+    static String text(String written) {
+        return written.replace('\'', '"');
+    }
+
+    /** Puts the text on the tape, which must be empty. */
+    static void feed(SceneText x, String text) {
+        byte[] bytes = text.getBytes(StandardCharsets.ISO_8859_1);
+        for (int i = 0; i < bytes.length; i += 20) {
+            due("feed", true, x.feed(four(bytes, i), four(bytes, i + 4), four(bytes, i + 8),
+                four(bytes, i + 12), four(bytes, i + 16)));
+        }
+        due("end", true, x.end(bytes.length));
+        due("size", bytes.length, x.size());
+    }
+
+    private static int four(byte[] bytes, int from) {
+        int four = 0;
+        for (int i = from; i < from + 4; i++) {
+            four = four << 8 | (i < bytes.length ? bytes[i] & 255 : 0);
+        }
+        return four;
+    }
+
+    /** Whether load took what is on the tape; what it answered is checked against count(3). */
+    static boolean loads(SceneText x) {
+        try {
+            due("load", x.load(), x.count(3));
+            return true;
+        } catch (IllegalArgumentException e) {
+            return false;
+        }
+    }
+
+    /** Loads a text that is right, with ' for a quote. */
+    static void taken(SceneText x, String written) {
+        feed(x, text(written));
+        due("taken: " + written, true, loads(x));
+        due("error(0): " + written, 0, x.error(0));
+        due("error(1): " + written, 0, x.error(1));
+        due("size behind load", 0, x.size());
+    }
+
+    static void taken(String written) {
+        taken(new SceneText(), written);
+    }
+
+    /** Loads a text that is wrong at the byte behind the ^ in it, with ' for a quote. */
+    static void refused(SceneText x, int what, String written) {
+        int where = written.indexOf('^');
+        feed(x, text(written.substring(0, where) + written.substring(where + 1)));
+        due("taken: " + written, false, loads(x));
+        due("error(0): " + written, what, x.error(0));
+        due("error(1): " + written, where, x.error(1));
+        due("size behind load", 0, x.size());
+    }
+
+    static void refused(int what, String written) {
+        refused(new SceneText(), what, written);
+    }
+
+    /** The text n times, with commas between. */
+    static String times(int n, String text) {
+        StringBuilder all = new StringBuilder();
+        for (int i = 0; i < n; i++) {
+            all.append(i == 0 ? "" : ",").append(text);
+        }
+        return all.toString();
+    }
+
+    static void finish() {
+        if (wrong != 0) {
+            System.out.println(wrong + " answers are not as due");
+            System.exit(1);
+        }
+    }
+}
