@@ -31,9 +31,14 @@ public final class SceneText {
     private static final int AMBIENT_LIMIT = 65536;
     private static final int SIDE_LIMIT = 32;
     private static final int BYTE_LIMIT = 255;
-    private static final int POINTS_LIMIT = 128;
-    private static final int FACES_LIMIT = 128;
-    private static final int KEYS_LIMIT = 32;
+    private static final int MOST_TEXTURES = 8;
+    private static final int MOST_MATERIALS = 16;
+    private static final int MOST_MESHES = 16;
+    private static final int MOST_NODES = 48;
+    private static final int MOST_TRACKS = 32;
+    private static final int MOST_POINTS = 128;
+    private static final int MOST_FACES = 128;
+    private static final int MOST_KEYS = 32;
 
     private final Reader reader = new Reader();
     private Scene scene = new Scene();
@@ -105,25 +110,26 @@ public final class SceneText {
         // Where a thing's lists begin among its cells; before them stand the numbers of about().
         static final int TEXELS = 3;
         static final int POINTS = 3;
-        static final int NORMALS = POINTS + 3 * POINTS_LIMIT;
-        static final int PLACES = NORMALS + 3 * POINTS_LIMIT;
-        static final int FACES = PLACES + 2 * POINTS_LIMIT;
+        static final int NORMALS = POINTS + 3 * MOST_POINTS;
+        static final int PLACES = NORMALS + 3 * MOST_POINTS;
+        static final int FACES = PLACES + 2 * MOST_POINTS;
         static final int TIMES = 4;
-        static final int VALUES = TIMES + KEYS_LIMIT;
+        static final int VALUES = TIMES + MOST_KEYS;
 
         private static final int TEXTURE_CELLS = TEXELS + 3 * SIDE_LIMIT * SIDE_LIMIT;
         private static final int MATERIAL_CELLS = 6;
-        private static final int MESH_CELLS = FACES + 3 * FACES_LIMIT;
+        private static final int MESH_CELLS = FACES + 3 * MOST_FACES;
         private static final int NODE_CELLS = 11;
-        private static final int TRACK_CELLS = VALUES + 3 * KEYS_LIMIT;
+        private static final int TRACK_CELLS = VALUES + 3 * MOST_KEYS;
 
-        private static final int FIRST_MATERIAL = VIEW + 8 * TEXTURE_CELLS;
-        private static final int FIRST_MESH = FIRST_MATERIAL + 16 * MATERIAL_CELLS;
-        private static final int FIRST_NODE = FIRST_MESH + 16 * MESH_CELLS;
-        private static final int FIRST_TRACK = FIRST_NODE + 48 * NODE_CELLS;
-        private static final int CELLS = FIRST_TRACK + 32 * TRACK_CELLS;
+        private static final int FIRST_MATERIAL = VIEW + MOST_TEXTURES * TEXTURE_CELLS;
+        private static final int FIRST_MESH = FIRST_MATERIAL + MOST_MATERIALS * MATERIAL_CELLS;
+        private static final int FIRST_NODE = FIRST_MESH + MOST_MESHES * MESH_CELLS;
+        private static final int FIRST_TRACK = FIRST_NODE + MOST_NODES * NODE_CELLS;
+        private static final int CELLS = FIRST_TRACK + MOST_TRACKS * TRACK_CELLS;
 
-        private static final int[] MOST = {8, 16, 16, 48, 32};
+        private static final int[] MOST =
+            {MOST_TEXTURES, MOST_MATERIALS, MOST_MESHES, MOST_NODES, MOST_TRACKS};
         private static final int[] FACTS = {3, 6, 3, 11, 4};
         private static final int[] WIDTHS =
             {TEXTURE_CELLS, MATERIAL_CELLS, MESH_CELLS, NODE_CELLS, TRACK_CELLS};
@@ -486,14 +492,14 @@ public final class SceneText {
             takeName('{', "material");
             takeNumber(cell, 0, draft.howMany(MATERIALS) - 1);
             takeName(',', "points");
-            int points = takeList(WHOLE_THREES, 3, 3 * POINTS_LIMIT,
+            int points = takeList(WHOLE_THREES, 3, 3 * MOST_POINTS,
                 cell + Scene.POINTS, -POINT_LIMIT, POINT_LIMIT) / 3;
             takeName(',', "normals");
             takeList(ANY, 3 * points, 3 * points, cell + Scene.NORMALS, -NORMAL_LIMIT, NORMAL_LIMIT);
             takeName(',', "places");
             takeList(ANY, 2 * points, 2 * points, cell + Scene.PLACES, -PLACE_LIMIT, PLACE_LIMIT);
             takeName(',', "faces");
-            int faces = takeList(WHOLE_THREES, 3, 3 * FACES_LIMIT,
+            int faces = takeList(WHOLE_THREES, 3, 3 * MOST_FACES,
                 cell + Scene.FACES, 0, points - 1) / 3;
             draft.put(cell + 1, points);
             draft.put(cell + 2, faces);
@@ -521,7 +527,7 @@ public final class SceneText {
             takeName(',', "how");
             takeNumber(cell + 2, 0, 2);
             takeName(',', "times");
-            int keys = takeList(GROWING, 1, KEYS_LIMIT, cell + Scene.TIMES, 0, TIME_LIMIT);
+            int keys = takeList(GROWING, 1, MOST_KEYS, cell + Scene.TIMES, 0, TIME_LIMIT);
             takeName(',', "values");
             int limit = what == 0 ? MOVE_LIMIT : what == 1 ? TURN_LIMIT : SIZE_LIMIT;
             takeList(ANY, 3 * keys, 3 * keys, cell + Scene.VALUES, -limit, limit);
