@@ -1,16 +1,37 @@
 import java.nio.charset.StandardCharsets;
 
-/** What the tests share: answers are compared and counted, texts are fed and loaded. */
+/**
+ * What the tests share: the sentence of the document that is being held, answers that are compared
+ * with what it asks for, texts that are fed and loaded.
+ */
 final class Check {
+    private static String sentence = "";
+    private static boolean sentenceWasAsked = true;
     private static int wrong = 0;
 
     private Check() {
     }
 
+    /** The answers from here on are held against these words of the document. */
+    static void sentence(String where, String words) {
+        sentenceIsAsked();
+        sentence = where + " \"" + words + "\": ";
+        sentenceWasAsked = false;
+    }
+
+    /** A sentence that no answer was held against would pass whatever the class does. */
+    private static void sentenceIsAsked() {
+        if (!sentenceWasAsked) {
+            wrong++;
+            System.out.println(sentence + "nothing was asked");
+        }
+    }
+
     static void due(String what, long want, long got) {
+        sentenceWasAsked = true;
         if (want != got) {
             wrong++;
-            System.out.println(what + ": answered " + got + ", due is " + want);
+            System.out.println(sentence + what + " answered " + got + ", due is " + want);
         }
     }
 
@@ -31,7 +52,6 @@ final class Check {
                 four(bytes, i + 12), four(bytes, i + 16)));
         }
         due("end", true, x.end(bytes.length));
-        due("size", bytes.length, x.size());
     }
 
     private static int four(byte[] bytes, int from) {
@@ -42,23 +62,27 @@ final class Check {
         return four;
     }
 
-    /** Whether load took what is on the tape; what it answered is checked against count(3). */
+    /** Whether load took what is on the tape. */
     static boolean loads(SceneText x) {
         try {
-            due("load", x.load(), x.count(3));
+            x.load();
             return true;
         } catch (IllegalArgumentException e) {
             return false;
         }
     }
 
+    /** Loads what is on the tape and holds what error tells of it; nothing is wrong if what is 0. */
+    static void dueError(SceneText x, int what, int where, String written) {
+        due("load took " + written, what == 0, loads(x));
+        due("error(0) of " + written, what, x.error(0));
+        due("error(1) of " + written, where, x.error(1));
+    }
+
     /** Loads a text that is right, with ' for a quote. */
     static void taken(SceneText x, String written) {
         feed(x, text(written));
-        due("taken: " + written, true, loads(x));
-        due("error(0): " + written, 0, x.error(0));
-        due("error(1): " + written, 0, x.error(1));
-        due("size behind load", 0, x.size());
+        dueError(x, 0, 0, written);
     }
 
     static void taken(String written) {
@@ -69,10 +93,7 @@ final class Check {
     static void refused(SceneText x, int what, String written) {
         int where = written.indexOf('^');
         feed(x, text(written.substring(0, where) + written.substring(where + 1)));
-        due("taken: " + written, false, loads(x));
-        due("error(0): " + written, what, x.error(0));
-        due("error(1): " + written, where, x.error(1));
-        due("size behind load", 0, x.size());
+        dueError(x, what, where, written);
     }
 
     static void refused(int what, String written) {
@@ -89,6 +110,7 @@ final class Check {
     }
 
     static void finish() {
+        sentenceIsAsked();
         if (wrong != 0) {
             System.out.println(wrong + " answers are not as due");
             System.exit(1);

@@ -140,6 +140,16 @@ final class Oracle {
         return oracle.story;
     }
 
+    /** What is wrong with a text and where, 0 and 0 if nothing is. */
+    static int[] wrong(String text) {
+        try {
+            read(text);
+            return new int[] {0, 0};
+        } catch (Wrong wrong) {
+            return new int[] {wrong.what, wrong.where};
+        }
+    }
+
     private Token peek() {
         return tokens.get(next);
     }

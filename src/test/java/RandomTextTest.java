@@ -21,6 +21,7 @@ final class RandomTextTest {
     private static final int[] REFUSED = new int[4];
 
     public static void main(String[] args) {
+        Check.sentence("Promises 2 to 10", "(random texts, against the oracle)");
         for (int i = 0; i < OBJECTS; i++) {
             oneObject();
         }
@@ -38,19 +39,14 @@ final class RandomTextTest {
         for (int i = 0; i < LOADS; i++) {
             String text = changed(scene());
             Check.feed(x, text);
-            int what = 0;
-            int where = 0;
-            try {
+            int[] wrong = Oracle.wrong(text);
+            if (wrong[0] == 0) {
                 story = Oracle.read(text);
                 taken++;
-            } catch (Oracle.Wrong wrong) {
-                what = wrong.what;
-                where = wrong.where;
-                REFUSED[what]++;
+            } else {
+                REFUSED[wrong[0]]++;
             }
-            Check.due("taken: " + text, what == 0, Check.loads(x));
-            Check.due("error(0): " + text, what, x.error(0));
-            Check.due("error(1): " + text, where, x.error(1));
+            Check.dueError(x, wrong[0], wrong[1], text);
             for (int probe = 0; probe < PROBES; probe++) {
                 probe(x, story, text);
             }
