@@ -62,12 +62,13 @@ final class Check {
         return four;
     }
 
-    /** Whether load took what is on the tape. */
+    /** Whether load took what is on the tape; the only way not to take it is an IllegalArgumentException. */
     static boolean loads(SceneText x) {
         try {
             x.load();
             return true;
-        } catch (IllegalArgumentException e) {
+        } catch (RuntimeException e) {
+            due("load throws IllegalArgumentException", true, e.getClass() == IllegalArgumentException.class);
             return false;
         }
     }

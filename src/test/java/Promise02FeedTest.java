@@ -117,6 +117,8 @@ final class Promise02FeedTest {
         }
         Check.due("size", 65520, x.size());
         Check.due("feed of 20 where 16 are left", false, feedBlanks(x));
+        Check.due("end", true, x.end(65517));
+        Check.due("feed of 20 where 19 are left", false, feedBlanks(x));
         Check.due("end", true, x.end(65516));
         Check.due("feed of 20 where 20 are left", true, x.feed(BLANKS, BLANKS, BLANKS, BLANKS, 0x2020207B));
         Check.due("size", 65536, x.size());

@@ -84,13 +84,7 @@ final class Promise05LoadTest {
         for (String written : wrong) {
             SceneText x = new SceneText();
             Check.feed(x, Check.text(written));
-            Class<?> thrown = null;
-            try {
-                x.load();
-            } catch (RuntimeException e) {
-                thrown = e.getClass();
-            }
-            Check.due("load of " + written + " throws it", true, thrown == IllegalArgumentException.class);
+            Check.due("load took " + written, false, Check.loads(x));
         }
     }
 

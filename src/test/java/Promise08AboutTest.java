@@ -23,6 +23,7 @@ final class Promise08AboutTest {
         noSuchKind();
         noSuchThing();
         noSuchNumber();
+        noLongerThere();
         fullestCounts();
         Check.finish();
     }
@@ -70,6 +71,21 @@ final class Promise08AboutTest {
             for (int which = 0; which < FACTS[what]; which++) {
                 Check.due("about " + what + " behind the last of all, " + which, 0,
                     x.about(what, Texts.MOST[what], which));
+            }
+        }
+    }
+
+    private static void noLongerThere() {
+        Check.sentence(PROMISE, "0 if there is none such (k, of which an earlier scene had one)");
+        for (int what = 0; what < 5; what++) {
+            SceneText x = new SceneText();
+            for (int things : new int[] {5, 4, 2}) {
+                Check.taken(x, Texts.full(what, things) + "]}");
+            }
+            for (int k = 2; k < 5; k++) {
+                for (int which = 0; which < FACTS[what]; which++) {
+                    Check.due("about " + what + " " + k + " " + which, 0, x.about(what, k, which));
+                }
             }
         }
     }

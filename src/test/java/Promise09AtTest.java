@@ -16,6 +16,7 @@ final class Promise09AtTest {
         noSuchThing();
         noSuchList();
         noSuchNumber();
+        noLongerThere();
         longerListLeavesNothing();
         Check.finish();
     }
@@ -64,6 +65,21 @@ final class Promise09AtTest {
             for (int list = 0; list < LISTS[what]; list++) {
                 Check.due("at " + what + " behind the last of all " + list + " 0", 0,
                     x.at(what, Texts.MOST[what], list, 0));
+            }
+        }
+    }
+
+    private static void noLongerThere() {
+        Check.sentence(PROMISE, "0 if there is none such (k, of which an earlier scene had one)");
+        for (int what = 0; what < 5; what += 2) {
+            SceneText x = new SceneText();
+            for (int things : new int[] {5, 4, 2}) {
+                Check.taken(x, Texts.full(what, things) + "]}");
+            }
+            for (int k = 2; k < 5; k++) {
+                for (int list = 0; list < LISTS[what]; list++) {
+                    Check.due("at " + what + " " + k + " " + list + " 0", 0, x.at(what, k, list, 0));
+                }
             }
         }
     }
